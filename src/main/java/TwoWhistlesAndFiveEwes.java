@@ -107,7 +107,8 @@ public final class TwoWhistlesAndFiveEwes {
         }
         Shelf from = shelves[p];
         Shelf to = shelves[q];
-        if (from.hasEwe() || to.hasEwe() || from.hasRow() && to.hasRow() && from.held != to.held) {
+        boolean areTwoSorts = from.hasRow() && to.hasRow() && from.held != to.held;
+        if (from.hasEwe() || to.hasEwe() || areTwoSorts) {
             return refuse(OTHER);
         }
         if (!from.hasRow() || !to.hasRow()) {
@@ -381,7 +382,7 @@ public final class TwoWhistlesAndFiveEwes {
                 bits |= 1 << i;
             }
             if ((taken & Hill.columnBits(i)) == 0) {
-                bits |= 1 << MOST_SIDE + i;
+                bits |= 1 << (MOST_SIDE + i);
             }
         }
         return bits;
@@ -816,7 +817,7 @@ public final class TwoWhistlesAndFiveEwes {
 
     /** A CELL's bit: 8 bits a ROW, so that bit 7 of each stays free and no shift comes round to another ROW. */
     private static long bitOf(int cell) {
-        return 1L << cell / 10 * 8 + cell % 10;
+        return 1L << (cell / 10 * 8 + cell % 10);
     }
 
     private static boolean isUnder(int kind, int upper) {
@@ -901,7 +902,7 @@ public final class TwoWhistlesAndFiveEwes {
         }
 
         boolean isOpen(int cell) {
-            return isCell(cell) && !isWall(cell);
+            return isCell(cell) && (walls & bitOf(cell)) == 0;
         }
 
         boolean mayBeDogs(int cell) {
@@ -1162,9 +1163,9 @@ public final class TwoWhistlesAndFiveEwes {
             return true;
         }
 
-        /** Whether from this level on some ROW up to length brings all IN; tried is then the first such. */
+        /** Whether some ROW, going on from this level to the length, brings all IN; tried is then the first such. */
         private static boolean bringsAll(Search search, Hill hill, int depth, int length) {
-            // most ROWS needn't be tried to their ends: a EWE is too far from THE PEN
+            // a EWE too far from THE PEN for what is left of the ROW spares trying all its ends
             if (depth > FEWEST_LIMIT || hill.countWithin(search.levels[depth], length - depth) < hill.count) {
                 return false;
             }
@@ -1198,8 +1199,9 @@ public final class TwoWhistlesAndFiveEwes {
 
         /** How many ROWS of n COMMANDS THE DOG can do, counted by the CELLS to which they bring it. */
         int countRows(Hill hill, int n) {
-            Arrays.fill(rows, 0);
-            rows[hill.spots.dog] = 1;
+            for (int cell = 0; cell < CELL_LIMIT; cell++) {
+                rows[cell] = cell == hill.spots.dog ? 1 : 0;
+            }
             for (int t = 0; t < n; t++) {
                 Arrays.fill(rowsThen, 0);
                 for (int cell = 0; cell < CELL_LIMIT; cell++) {

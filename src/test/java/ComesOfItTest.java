@@ -50,6 +50,7 @@ public final class ComesOfItTest {
         DUE.is("22: most(2, 1)", x.most(2, 1), 3);
         x.ewe(4, 0, 50);
         DUE.is("22: not all", x.most(1, -1), 1);
+        DUE.is("22: most(5, NONE)", x.most(5, -1), 1);
         int[][] bad = {{-1, -1}, {6, -1}, {2, 2}, {2, -2}, {0, 0}, {5, Integer.MAX_VALUE}};
         for (int[] b : bad) {
             DUE.is("22: most(" + b[0] + ", " + b[1] + ")", x.most(b[0], b[1]), -2);
@@ -102,6 +103,8 @@ public final class ComesOfItTest {
         DUE.is("25: late(0, 0, 3)", x.late(0, 0, 3), 1);
         DUE.is("25: late(0, 2, 0)", x.late(0, 2, 0), 1);
         DUE.is("25: no COMMAND", x.late(0, 3, 0), -5);
+        Due.fill(x, 3, 0, 5);
+        DUE.is("25: no COMMAND, the first", x.late(3, 1, 0), -5);
         DUE.is("25: fewer elements", x.late(0, 4, 0), -2);
         Due.fill(x, 1, 3, 4, 4, 4, 3, 3, (1L << 32) + 1);
         DUE.is("25: what THE DOG can't do", x.late(1, 4, 0), 0);
@@ -267,6 +270,9 @@ public final class ComesOfItTest {
         DUE.is("36: no EWES", x.last(), -1);
         x.ewe(0, 0, 0);
         DUE.is("36: one that is IN", x.last(), 0);
+        x.move(0, 1);
+        DUE.is("35: EWE 0", x.grazing(), 1);
+        x.move(0, 0);
         x.ewe(2, 0, 54);
         x.ewe(0, 0, 53);
         x.ewe(5, 0, 45);
@@ -321,6 +327,11 @@ public final class ComesOfItTest {
         Due.fill(x, 1, 3, 0, 0, 0);
         DUE.is("40: IN, it stays", x.kinds(0, 1, 3, 0), 1 + 2 + 4 + 8 + 16 + 32);
         DUE.is("40: fewer elements", x.kinds(0, 1, 4, 0), -2);
+        Due.fill(x, 3, 3, -1, 0, 0, 0);
+        DUE.is("40: fewer elements in the first", x.kinds(0, 3, 4, 0), -2);
+        DUE.is("40: fewer elements in the second", x.kinds(3, 1, 4, 0), -2);
+        DUE.is("40: no CELL, the first of its own", x.kinds(0, 3, 1, 0), -5);
+        DUE.is("40: no CELL, THE DOG's first", x.kinds(3, 1, 1, 0), -5);
         DUE.is("40: no such EWE", x.kinds(0, 1, 1, 2), -2);
         DUE.is("40: BAD n", x.kinds(7, 7, 41, 0), -2);
         DUE.is("40: BAD n", x.kinds(7, 7, -1, 0), -2);

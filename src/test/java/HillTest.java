@@ -160,7 +160,7 @@ public final class HillTest {
             {" Side 7", -21}, {"side 7 7", -27}, {"side 007", -25}, {"side 5", -25}, {"side 8", -25}, {"side x", -25},
             {"side ;", -25}, {"side 7x", -26}, {"side -7", -25}, {"wa ll 1", -20}, {"wall 1#", -26}, {"wall 1 wall 2", -27},
             {"wall 1:", -26}, {"wall 1/", -26}, {"wall `", -25}, {"wall {", -25}, {"wall\t1", -24}, {"wall \u00e9", -25},
-            {"walls 1", -20}, {"wall 0", -25}, {"wall 55", -25}, {"wall 6", -25}, {"wall 60", -25}, {"wall 123", -25},
+            {"walls 1", -20}, {"wallz 1", -20}, {"tall 1", -20}, {"well 1", -20}, {"walk 1", -20}, {"wall 0", -25}, {"wall 55", -25}, {"wall 6", -25}, {"wall 60", -25}, {"wall 123", -25},
             {"gap 60", -24}, {"gap 6", -24}, {"pen 55", -24}, {"pen 6", -24}, {"wall 1;pen 1", -31}, {"ewe 0 0 1;pen 1", -34},
             {"dog 0", -24}, {"dog 60", -24}, {"wall 1;dog 1", -31}, {"dog 1;pen 1", -30}, {"dog 1;wall 1", -31},
             {"ewe", -23}, {"ewe 0", -25}, {"ewe 0 0", -27}, {"ewe 0 0;", -27}, {"ewe 6 0 1", -24}, {"ewe 001 0 1", -24},
@@ -210,6 +210,8 @@ public final class HillTest {
         DUE.is("18: three EWES", x.status(0), 3);
         DUE.is("18: one behind the other", Due.hill(x, "wall 33;gap 33;dog 33;wall 0"), 4);
         DUE.is("18: THE DOG then", x.status(3), 33);
+        DUE.is("18: the most WIND", Due.hill(x, "wind 12"), 1);
+        DUE.is("18: the most WIND", x.status(4), 12);
         DUE.is("18: no refusals", x.status(12), 0);
         DUE.is("18: no TURNS", x.status(5), 0);
     }

@@ -128,8 +128,9 @@ public final class TruthTest {
         x.wall(24, true);
         x.move(0, 66);
         x.ewe(0, 0, 1);
-        x.show(0, 0);
-        x.show(1, 1);
+        x.show(0, 1);
+        x.show(1, 0);
+        x.show(7, 1);
         Due.fill(x, 2, 0, 8);
         x.dog(55);
         x.turn(1);
@@ -145,9 +146,10 @@ public final class TruthTest {
         DUE.is("48: its WALL", x.hasWall(22), 1);
         DUE.is("48: none else", x.hasWall(25), 0);
         DUE.is("48: its EWE", x.eweOf(0, 2), cell);
-        DUE.is("48: EWE 0 in a SHELF", x.holds(0), 10);
-        DUE.is("48: it says its a", x.says(0, 0), 4);
-        DUE.is("48: EWE 1 in none", x.holds(1), -1);
+        DUE.is("48: EWE 0 in a SHELF", x.holds(1), 10);
+        DUE.is("48: it says its a", x.says(1, 0), 4);
+        DUE.is("48: EWE 1 in none", x.holds(0), -1);
+        DUE.is("48: EWE 1 in none", x.holds(7), -1);
         DUE.is("48: a ROW", x.element(2, 0), 8);
         DUE.is("48: THE TAPE", x.status(9), 1);
         DUE.is("48: REFUSALS", x.status(12) * 10 + x.status(15), 11);

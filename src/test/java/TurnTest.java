@@ -44,6 +44,9 @@ public final class TurnTest {
         goes("wild 4, twice", WILD, 0, 33, 20, 53);
         goes("wild 5, once", WILD, 0, 33, 10, 43);
         goes("wild 6", WILD, 0, 44, 20, 44);
+        goes("moor 0, twice", MOOR, 0, 33, 33, 13);
+        goes("wild 0, three times", WILD, 0, 33, 33, 3);
+        goes("leader 2 of 9, once", LEADER, 9, 33, 31, 23);
         goes("leader 3 of 3", LEADER, 3, 33, 30, 23);
         goes("leader 4 of 3", LEADER, 3, 33, 20, 33);
         goes("leader 9 STEPS", LEADER, 9, 44, 1, 54);
