@@ -185,8 +185,7 @@ public final class TwoWhistlesAndFiveEwes {
         if (!now.isCell(cell)) {
             return refuse(BAD);
         }
-        // a EWE that is IN keeps THE PEN where it is
-        if (!now.mayBePen(cell) || now.hasEweAt(now.pen)) {
+        if (!now.mayBePen(cell)) {
             return refuse(STUCK);
         }
         int was = now.pen;
@@ -914,7 +913,8 @@ public final class TwoWhistlesAndFiveEwes {
         }
 
         boolean mayBePen(int cell) {
-            return isOpen(cell) && cell != spots.dog && !hasEweAt(cell);
+            // a EWE that is IN keeps THE PEN where it is
+            return isOpen(cell) && cell != spots.dog && !hasEweAt(cell) && !hasEweAt(pen);
         }
 
         boolean isEwe(int ewe) {

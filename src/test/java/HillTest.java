@@ -167,6 +167,8 @@ public final class HillTest {
             {"ewe 0 10 1", -26}, {"ewe 0 0 6", -28}, {"ewe 0,0 1", -25}, {"ewe 0;0 1", -25}, {"ewe 0 0 1 1", -30},
             {"ewe 001", -24}, {"wall 1;ewe 0 0 1", -35}, {"ewe 0 0 1;wall 1", -35}, {"wind 13", -25}, {"wind", -24},
             {"wind 100", -25}, {"dog 66;side 7", -24}, {"dog 0;pen 11", -24}, {"wall 1;wall 55", -32},
+            {"ewe 0 0 0;pen 11", -34}, {"ewe 0 0 0;pen 0", -34}, {"ewe 0 0 0;pen 123", -34}, {"ewe 0 0 0;pen", -33},
+            {"pen 11;ewe 0 0 11;pen 22", -42}, {"ewe 0 0 1;ewe 0 0 0;pen 11", -44},
             {"ewe 0 0 1;ewe 0 0 1;ewe 0 0 1;ewe 0 0 1;ewe 0 0 1;ewe 9 9 99", -70},
             {"ewe 0 0 1;ewe 0 0 1;ewe 0 0 1;ewe 0 0 1;ewe 0 0 1; ewe", -71},
         };
@@ -216,6 +218,24 @@ public final class HillTest {
         DUE.is("18: no TURNS", x.status(5), 0);
     }
 
+    private static void penStatementWhileAEweIsIn() {
+        TwoWhistlesAndFiveEwes x = fresh();
+        DUE.is("18: THE PEN goes ahead of the EWE", Due.hill(x, "pen 11;ewe 5 9 0;pen 22;pen 11"), 4);
+        DUE.is("18: none is IN", x.status(6), 0);
+        x.ewe(0, 0, 11);
+        DUE.is("18: a EWE is IN, elsewhere", Due.hill(x, "pen1"), -23);
+        DUE.is("18: a EWE is IN, there", Due.hill(x, "pen 11"), -24);
+        DUE.is("18: with all else of the HILL", Due.hill(x, "wind 9;pen 22;side 7"), -31);
+        DUE.is("18: refused", x.status(12), 3);
+        DUE.is("18: never STUCK", x.status(15), 0);
+        DUE.is("18: THE PEN stays", x.status(2), 11);
+        DUE.is("18: it is IN still", x.eweOf(1, 3), 1);
+        DUE.is("18: WIND stays", x.status(4), 2);
+        x.move(1, 12);
+        DUE.is("18: none is IN any more", Due.hill(x, "pen 22"), 1);
+        DUE.is("18: THE PEN went", x.status(2), 22);
+    }
+
     private static void fullTape() {
         TwoWhistlesAndFiveEwes x = fresh();
         StringBuilder text = new StringBuilder();
@@ -241,6 +261,7 @@ public final class HillTest {
         windAndTape();
         faults();
         hills();
+        penStatementWhileAEweIsIn();
         fullTape();
         DUE.end();
     }

@@ -90,6 +90,10 @@ final class PlainClass {
             return ewes.stream().anyMatch(e -> e.at.equals(p));
         }
 
+        boolean penCan(P p) {
+            return free(p) && !p.equals(dog) && !eweAt(p) && in() == 0;
+        }
+
         boolean in(E e) {
             return e.at.equals(pen);
         }
@@ -391,7 +395,7 @@ final class PlainClass {
 
     int pen(int c) {
         P p = cell(c);
-        stuck(!w.free(p) || p.equals(w.dog) || w.eweAt(p) || w.eweAt(w.pen));
+        stuck(!w.penCan(p));
         int was = w.pen.number();
         w.pen = p;
         return was;
@@ -505,7 +509,7 @@ final class PlainClass {
                     case "side" -> v[i] >= d.side && v[i] <= 7;
                     case "wall" -> d.on(p) && !p.equals(d.pen) && !p.equals(d.dog) && !d.eweAt(p);
                     case "gap" -> d.on(p);
-                    case "pen" -> d.free(p) && !p.equals(d.dog) && !d.eweAt(p);
+                    case "pen" -> d.penCan(p);
                     case "dog" -> d.dogCan(p);
                     case "wind" -> v[i] <= 12;
                     default -> i == 0 ? v[i] <= 5 : i == 1 ? v[i] <= 9 : d.free(p);
