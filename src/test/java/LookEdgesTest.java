@@ -6,36 +6,16 @@ public final class LookEdgesTest {
     private static final int STUBBORN = 4;
     private static final int LEADER = 5;
 
-    private static TwoWhistlesAndFiveEwes large(int pen, int dog) {
-        TwoWhistlesAndFiveEwes x = new TwoWhistlesAndFiveEwes();
-        x.side(7);
-        x.pen(pen);
-        x.dog(dog);
-        return x;
-    }
-
-    /** Walls on all CELLS but those told. */
-    private static TwoWhistlesAndFiveEwes onlyOpen(int pen, int dog, int... open) {
-        TwoWhistlesAndFiveEwes x = large(pen, dog);
-        for (int i = 0; i < 49; i++) {
-            x.wall(i / 7 * 10 + i % 7, true);
-        }
-        for (int cell : open) {
-            x.wall(cell, false);
-        }
-        return x;
-    }
-
     /** 24: "The most STEPS from which THE DOG .. would move a EWE", of each KIND. */
     private static void shyByKind() {
         int[] due = {3, 3, 3, 5, 3};
         for (int kind = 0; kind < LEADER; kind++) {
-            TwoWhistlesAndFiveEwes x = large(0, 66);
+            TwoWhistlesAndFiveEwes x = Starts.large(0, 66);
             x.ewe(kind, 9, 33);
             DUE.is("24: KIND " + kind, x.shy(0), due[kind]);
         }
         for (int a = 0; a <= 9; a++) {
-            TwoWhistlesAndFiveEwes x = large(0, 66);
+            TwoWhistlesAndFiveEwes x = Starts.large(0, 66);
             x.ewe(LEADER, a, 33);
             // no CELL is more than 6 STEPS from the middle
             DUE.is("24: a LEADER of " + a, x.shy(0), Math.min(a, 6));
@@ -44,7 +24,7 @@ public final class LookEdgesTest {
 
     /** 24: "(no WALL, not THE PEN)"; "NONE: from none". */
     private static void shyByCells() {
-        TwoWhistlesAndFiveEwes x = onlyOpen(66, 62, 62, 63, 64, 65, 66);
+        TwoWhistlesAndFiveEwes x = Starts.onlyOpen(66, 62, 62, 63, 64, 65, 66);
         x.ewe(0, 0, 63);
         DUE.is("24: not from THE PEN, 3 STEPS away", x.shy(0), 2);
         x.wall(65, true);
@@ -52,20 +32,20 @@ public final class LookEdgesTest {
         x.dog(64);
         x.wall(62, true);
         DUE.is("24: from its own CELL alone: beside it there is none farther", x.shy(0), 0);
-        x = onlyOpen(0, 66, 66, 65, 64, 63);
+        x = Starts.onlyOpen(0, 66, 66, 65, 64, 63);
         x.ewe(0, 0, 64);
         DUE.is("24: from the last CELL", x.shy(0), 2);
-        x = onlyOpen(66, 0, 0, 1, 2, 3);
+        x = Starts.onlyOpen(66, 0, 0, 1, 2, 3);
         x.ewe(0, 0, 2);
         DUE.is("24: from CELL 0", x.shy(0), 2);
-        x = onlyOpen(0, 66, 66, 65, 64, 63);
+        x = Starts.onlyOpen(0, 66, 66, 65, 64, 63);
         x.ewe(OLD, 0, 65);
         DUE.is("24: it stares at all but one", x.shy(0), 2);
         x.ewe(STUBBORN, 0, 65);
         DUE.is("24: it stares at all", x.shy(1), -1);
         x.move(0, 0);
         DUE.is("24: IN", x.shy(0), -1);
-        x = onlyOpen(0, 66, 66, 33);
+        x = Starts.onlyOpen(0, 66, 66, 33);
         x.ewe(WILD, 0, 33);
         DUE.is("24: nowhere to go", x.shy(0), -1);
         DUE.is("24: NONE isn't refused", x.status(12), 0);
@@ -76,13 +56,13 @@ public final class LookEdgesTest {
     /** 26: "ROWS (bits 0 on) and COLUMNS (bits 7 on) of the hill in which there is neither a WALL nor a EWE". */
     private static void bares() {
         DUE.is("26: an empty hill", new TwoWhistlesAndFiveEwes().bare(), 63 + 63 * 128);
-        DUE.is("26: an empty hill of SIDE 7", large(0, 66).bare(), 127 + 127 * 128);
-        DUE.is("26: THE PEN and THE DOG are none of it", large(33, 34).bare(), 127 + 127 * 128);
+        DUE.is("26: an empty hill of SIDE 7", Starts.large(0, 66).bare(), 127 + 127 * 128);
+        DUE.is("26: THE PEN and THE DOG are none of it", Starts.large(33, 34).bare(), 127 + 127 * 128);
         for (int row = 0; row < 7; row++) {
             for (int column = 0; column < 7; column++) {
                 int cell = 10 * row + column;
                 int dog = cell == 33 ? 34 : 33;
-                TwoWhistlesAndFiveEwes x = large(cell == 0 ? 66 : 0, dog);
+                TwoWhistlesAndFiveEwes x = Starts.large(cell == 0 ? 66 : 0, dog);
                 x.ewe(0, 0, cell);
                 int due = 127 - (1 << row) + (127 - (1 << column)) * 128;
                 DUE.is("26: a EWE at " + cell, x.bare(), due);
@@ -93,7 +73,7 @@ public final class LookEdgesTest {
                 DUE.is("26: a WALL at " + cell + ", a EWE that is IN", x.bare(), due & ~(others * 129));
             }
         }
-        TwoWhistlesAndFiveEwes x = onlyOpen(0, 66);
+        TwoWhistlesAndFiveEwes x = Starts.onlyOpen(0, 66);
         DUE.is("26: WALLS in all", x.bare(), 0);
         x = new TwoWhistlesAndFiveEwes();
         x.wall(5, true);
@@ -103,7 +83,7 @@ public final class LookEdgesTest {
 
     /** 28: "APART: the most STEPS between two EWES that aren't IN (0: fewer than two)". */
     private static void apart() {
-        TwoWhistlesAndFiveEwes x = large(33, 34);
+        TwoWhistlesAndFiveEwes x = Starts.large(33, 34);
         DUE.is("28: APART of none", x.ewes(0), 0);
         x.ewe(0, 0, 0);
         DUE.is("28: APART of one", x.ewes(0), 0);
@@ -123,7 +103,7 @@ public final class LookEdgesTest {
 
     /** 28: "FLOCK: .. from which another one that isn't IN is more than 2 STEPS away". */
     private static void flock() {
-        TwoWhistlesAndFiveEwes x = large(0, 66);
+        TwoWhistlesAndFiveEwes x = Starts.large(0, 66);
         DUE.is("28: FLOCK of none", x.ewes(1), 0);
         x.ewe(0, 0, 33);
         DUE.is("28: FLOCK of one", x.ewes(1), 0);
@@ -146,7 +126,7 @@ public final class LookEdgesTest {
 
     /** 28: "NEAREST: the EWE that isn't IN nearest to THE DOG, of several the first"; "NONE". */
     private static void nearest() {
-        TwoWhistlesAndFiveEwes x = large(33, 34);
+        TwoWhistlesAndFiveEwes x = Starts.large(33, 34);
         DUE.is("28: NEAREST of none", x.ewes(2), -1);
         x.ewe(0, 0, 33);
         DUE.is("28: NEAREST, all are IN", x.ewes(2), -1);
@@ -171,7 +151,7 @@ public final class LookEdgesTest {
             {LEADER, 0, 45, 0, 1}, {LEADER, 0, 55, 0, 0}, {LEADER, 2, 35, 1, 0}, {LEADER, 2, 45, 0, 1}, {LEADER, 3, 45, 1, 0},
             {LEADER, 3, 55, 0, 0}, {LEADER, 4, 55, 1, 0}};
         for (int[] d : due) {
-            TwoWhistlesAndFiveEwes x = large(0, 33);
+            TwoWhistlesAndFiveEwes x = Starts.large(0, 33);
             x.ewe(0, 0, 0);
             // shut up at the border, 3 STEPS away
             if (d[2] == 36 || d[2] == 30) {
@@ -185,7 +165,7 @@ public final class LookEdgesTest {
             x.turn(0);
             DUE.is("28: it goes, " + why, x.eweOf(1, 2) == d[2] ? 0 : 1, d[3]);
         }
-        TwoWhistlesAndFiveEwes x = large(0, 33);
+        TwoWhistlesAndFiveEwes x = Starts.large(0, 33);
         for (int e = 0; e < 5; e++) {
             x.ewe(e, 0, e == OLD || e == STUBBORN ? 63 : 43);
         }
@@ -213,7 +193,7 @@ public final class LookEdgesTest {
                 DUE.is("32: open(" + (10 * row + column) + ") on SIDE " + side, x.open(10 * row + column), due);
             }
         }
-        TwoWhistlesAndFiveEwes x = large(23, 43);
+        TwoWhistlesAndFiveEwes x = Starts.large(23, 43);
         x.ewe(0, 0, 32);
         DUE.is("32: THE PEN, THE DOG, a EWE have no WALL", x.open(33), 4);
         x.wall(33, true);
@@ -231,11 +211,11 @@ public final class LookEdgesTest {
     /** 33: "How many CELLS .. would move no EWE (what 0), most EWES together: how many go (1)". */
     private static void stills() {
         DUE.is("33: no EWES on SIDE 6", new TwoWhistlesAndFiveEwes().still(0), 35);
-        DUE.is("33: no EWES on SIDE 7", large(33, 66).still(0), 48);
-        DUE.is("33: no EWES go", large(33, 66).still(1), 0);
+        DUE.is("33: no EWES on SIDE 7", Starts.large(33, 66).still(0), 48);
+        DUE.is("33: no EWES go", Starts.large(33, 66).still(1), 0);
         int[][] due = {{60, 6}, {61, 2}, {62, 1}, {63, 0}, {64, 1}, {65, 2}, {66, 6}};
         for (int[] d : due) {
-            TwoWhistlesAndFiveEwes x = onlyOpen(33, 61, 60, 61, 62, 63, 64, 65, 66);
+            TwoWhistlesAndFiveEwes x = Starts.onlyOpen(33, 61, 60, 61, 62, 63, 64, 65, 66);
             x.ewe(0, 0, d[0]);
             // at a border none but its own CELL moves it, else those 3 STEPS away or fewer
             DUE.is("33: in one ROW, a EWE at " + d[0], x.still(0), d[1]);
@@ -243,7 +223,7 @@ public final class LookEdgesTest {
             x.ewe(0, 0, 33);
             DUE.is("33: one that is IN doesn't", x.still(1), 1);
         }
-        TwoWhistlesAndFiveEwes x = onlyOpen(33, 61, 60, 61, 62, 63, 64, 65, 66);
+        TwoWhistlesAndFiveEwes x = Starts.onlyOpen(33, 61, 60, 61, 62, 63, 64, 65, 66);
         for (int e = 1; e <= 5; e++) {
             x.ewe(0, 0, 62);
             DUE.is("33: together", x.still(1), e);
@@ -255,14 +235,14 @@ public final class LookEdgesTest {
         DUE.is("33: no CELL with a WALL", x.still(0), 0);
         DUE.is("33: what -1", x.still(-1), -2);
         DUE.is("33: what 2", x.still(2), -2);
-        x = onlyOpen(66, 1, 0, 1, 2, 3, 4, 5, 6);
+        x = Starts.onlyOpen(66, 1, 0, 1, 2, 3, 4, 5, 6);
         x.ewe(0, 0, 4);
         DUE.is("33: none by CELL 0 alone", x.still(0), 1);
     }
 
     /** 35: "EWES (bits) that aren't IN and more than 3 STEPS from THE DOG". */
     private static void grazings() {
-        TwoWhistlesAndFiveEwes x = large(66, 0);
+        TwoWhistlesAndFiveEwes x = Starts.large(66, 0);
         DUE.is("35: no EWES", x.grazing(), 0);
         for (int kind = 0; kind < 5; kind++) {
             x.ewe(kind, 9, 30);
@@ -280,7 +260,7 @@ public final class LookEdgesTest {
 
     /** 36: "The EWE farthest from THE PEN, of several the first; NONE: no EWES"; 38: "All STEPS of EWES to THE PEN together". */
     private static void lastAndSteps() {
-        TwoWhistlesAndFiveEwes x = large(0, 55);
+        TwoWhistlesAndFiveEwes x = Starts.large(0, 55);
         DUE.is("36: no EWES", x.last(), -1);
         DUE.is("38: no EWES", x.steps(), 0);
         for (int e = 0; e < 5; e++) {
@@ -305,7 +285,7 @@ public final class LookEdgesTest {
 
     /** 37: "EWES (bits) within n STEPS (0 to 12) of a EWE, but not itself". */
     private static void nears() {
-        TwoWhistlesAndFiveEwes x = large(66, 55);
+        TwoWhistlesAndFiveEwes x = Starts.large(66, 55);
         x.ewe(0, 0, 0);
         DUE.is("37: not itself", x.near(0, 12), 0);
         x.ewe(0, 0, 0);

@@ -51,4 +51,38 @@ final class Starts {
         Due.fill(x, 1, 0, 4, 0);
         return x;
     }
+
+    static TwoWhistlesAndFiveEwes large(int pen, int dog) {
+        TwoWhistlesAndFiveEwes x = new TwoWhistlesAndFiveEwes();
+        x.side(7);
+        x.pen(pen);
+        x.dog(dog);
+        return x;
+    }
+
+    /** WALLS on all CELLS but those told, and those of THE PEN and THE DOG. */
+    static TwoWhistlesAndFiveEwes onlyOpen(int pen, int dog, int... open) {
+        TwoWhistlesAndFiveEwes x = large(pen, dog);
+        for (int i = 0; i < 49; i++) {
+            x.wall(i / 7 * 10 + i % 7, true);
+        }
+        for (int cell : open) {
+            x.wall(cell, false);
+        }
+        return x;
+    }
+
+    /** A LEADER that goes into THE PEN in three TURNS, if THE DOG stays. */
+    static TwoWhistlesAndFiveEwes threeTurns() {
+        TwoWhistlesAndFiveEwes x = large(0, 16);
+        x.ewe(5, 9, 3);
+        return x;
+    }
+
+    /** A EWE that comes IN as soon as THE DOG is at 13, 22 or 31. */
+    static TwoWhistlesAndFiveEwes oneEwe(int dog) {
+        TwoWhistlesAndFiveEwes x = large(0, dog);
+        x.ewe(0, 0, 1);
+        return x;
+    }
 }

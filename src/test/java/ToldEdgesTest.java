@@ -3,33 +3,11 @@ public final class ToldEdgesTest {
     private static final Due DUE = new Due("ToldEdgesTest");
     private static final long BEYOND_INT = 1L << 32;
 
-    private static TwoWhistlesAndFiveEwes large(int pen, int dog) {
-        TwoWhistlesAndFiveEwes x = new TwoWhistlesAndFiveEwes();
-        x.side(7);
-        x.pen(pen);
-        x.dog(dog);
-        return x;
-    }
-
-    /** A LEADER that goes into THE PEN in three TURNS, if THE DOG stays. */
-    private static TwoWhistlesAndFiveEwes threeTurns() {
-        TwoWhistlesAndFiveEwes x = large(0, 16);
-        x.ewe(5, 9, 3);
-        return x;
-    }
-
-    /** A EWE that comes IN as soon as THE DOG is at 13. */
-    private static TwoWhistlesAndFiveEwes oneEwe(int dog) {
-        TwoWhistlesAndFiveEwes x = large(0, dog);
-        x.ewe(0, 0, 1);
-        return x;
-    }
-
     /** 25: "each done l TURNS late (0 to 3; ..; n and l TURNS in all; what THE DOG can't do it doesn't)", n 0 to 40. */
     private static void lateTurnsInAll() {
         for (int n = 0; n <= 5; n++) {
             for (int l = 0; l <= 3; l++) {
-                TwoWhistlesAndFiveEwes x = threeTurns();
+                TwoWhistlesAndFiveEwes x = Starts.threeTurns();
                 x.row(0, 0, 40);
                 // THE DOG can't go a COLUMN more
                 Due.fill(x, 1, 3, 4, 4, 4, 4, 4);
@@ -38,7 +16,7 @@ public final class ToldEdgesTest {
                 DUE.is("25: what it can't do, " + n + " and " + l + " TURNS", x.late(1, n, l), due);
             }
         }
-        TwoWhistlesAndFiveEwes x = threeTurns();
+        TwoWhistlesAndFiveEwes x = Starts.threeTurns();
         x.row(0, 0, 40);
         DUE.is("25: 40 and 3", x.late(0, 40, 3), 1);
         DUE.is("25: 40 and 4", x.late(0, 40, 4), -2);
@@ -55,7 +33,7 @@ public final class ToldEdgesTest {
 
     /** 25: "0 is done till then": not what it did latest, and ahead of the COMMANDS. */
     private static void lateTillThen() {
-        TwoWhistlesAndFiveEwes x = oneEwe(15);
+        TwoWhistlesAndFiveEwes x = Starts.oneEwe(15);
         x.turn(3);
         DUE.is("25: what it did latest", x.status(8), 3);
         Due.fill(x, 0, 0, 3);
@@ -63,7 +41,7 @@ public final class ToldEdgesTest {
             DUE.is("25: stays till then, " + l + " TURNS", x.late(0, 0, l), 0);
             DUE.is("25: goes then, " + l + " TURNS late", x.late(0, 1, l), 1);
         }
-        x = oneEwe(13);
+        x = Starts.oneEwe(13);
         Due.fill(x, 0, 0, 2);
         DUE.is("25: goes away at once", x.late(0, 1, 0), 0);
         DUE.is("25: goes away a TURN late", x.late(0, 1, 1), 1);
@@ -72,7 +50,7 @@ public final class ToldEdgesTest {
     /** 25, 27: "STUCK: an element that is no COMMAND", of the first n alone. */
     private static void noCommands() {
         for (long no : new long[] {-1, 5, 6, 127, -128, Long.MIN_VALUE, Long.MAX_VALUE, BEYOND_INT, BEYOND_INT + 3, -BEYOND_INT}) {
-            TwoWhistlesAndFiveEwes x = oneEwe(14);
+            TwoWhistlesAndFiveEwes x = Starts.oneEwe(14);
             Due.fill(x, 0, 3, 0, 4, no);
             DUE.is("25: ahead of " + no, x.late(0, 2, 0), 0);
             DUE.is("25: " + no, x.late(0, 3, 0), -5);
@@ -94,7 +72,7 @@ public final class ToldEdgesTest {
         // twice heard: 144 ways, 121, 100, ..
         int[] twice = {1000000, 840277, 694444, 562500, 444444, 340277, 250000, 173611, 111111, 62500, 27777, 6944, 0};
         for (int wind = 0; wind <= 12; wind++) {
-            TwoWhistlesAndFiveEwes x = oneEwe(14);
+            TwoWhistlesAndFiveEwes x = Starts.oneEwe(14);
             x.wind(wind);
             Due.fill(x, 0, 0, 3);
             DUE.is("27: one to be heard, WIND " + wind, x.odds(0, 1), once[wind]);
@@ -110,7 +88,7 @@ public final class ToldEdgesTest {
 
     /** 27: "all are IN behind them": none, all, no EWES; n 0 to 6. */
     private static void oddsOfNone() {
-        TwoWhistlesAndFiveEwes x = threeTurns();
+        TwoWhistlesAndFiveEwes x = Starts.threeTurns();
         x.row(0, 0, 7);
         int[] due = {0, 0, 0, 1000000, 1000000, 1000000, 1000000, -2};
         for (int wind = 0; wind <= 12; wind++) {
@@ -134,14 +112,14 @@ public final class ToldEdgesTest {
 
     /** 27: "THE DOG does then what it did in the TURN ahead (..; what it can't do it doesn't, and it counts as done all the same)". */
     private static void oddsOfWhatItDid() {
-        TwoWhistlesAndFiveEwes x = large(3, 30);
+        TwoWhistlesAndFiveEwes x = Starts.large(3, 30);
         x.ewe(0, 0, 13);
         // a COLUMN less can't be done; 10 is come to if the first is heard and the second isn't
         Due.fill(x, 0, 0, 1, 3, 0);
         DUE.is("27: 10 times 2 of 144", x.odds(0, 3), 138888);
         x.wind(6);
         DUE.is("27: 6 times 6 of 144", x.odds(0, 3), 250000);
-        x = oneEwe(16);
+        x = Starts.oneEwe(16);
         x.turn(3);
         x.row(0, 0, 2);
         x.wind(12);
@@ -155,7 +133,7 @@ public final class ToldEdgesTest {
 
     /** 41: "WRONG: the first that is none or that THE DOG can't do; NONE", n 0 to 40. */
     private static void wrong() {
-        TwoWhistlesAndFiveEwes x = large(0, 33);
+        TwoWhistlesAndFiveEwes x = Starts.large(0, 33);
         x.row(0, 1, 40);
         DUE.is("41: none", x.judge(0, 0), -1);
         DUE.is("41: forty", x.judge(0, 40), -1);
@@ -185,7 +163,7 @@ public final class ToldEdgesTest {
 
     /** 42: "how many are IN (what 0), THE DOG's CELL (1), APART (2), the CELL of EWE 0 to 4 (10 to 14)". */
     private static void behind() {
-        TwoWhistlesAndFiveEwes x = threeTurns();
+        TwoWhistlesAndFiveEwes x = Starts.threeTurns();
         x.row(0, 0, 40);
         Due.fill(x, 1, 0, 2, 3, 1);
         for (int e = 1; e < 5; e++) {
@@ -212,7 +190,7 @@ public final class ToldEdgesTest {
 
     /** 43: "They are done in truth: how many are IN", n 0 to 40. */
     private static void done() {
-        TwoWhistlesAndFiveEwes x = threeTurns();
+        TwoWhistlesAndFiveEwes x = Starts.threeTurns();
         x.turn(2);
         x.turn(1);
         x.move(0, 3);
@@ -245,7 +223,7 @@ public final class ToldEdgesTest {
             {65, 23, 8}, {65, 13, 0}, {65, 33, 23}, {65, 32, 32},
             {66, 23, 0}, {66, 33, 63}, {66, 32, 0}};
         for (int own = 0; own <= 5; own++) {
-            TwoWhistlesAndFiveEwes x = large(60, 0);
+            TwoWhistlesAndFiveEwes x = Starts.large(60, 0);
             x.ewe(own, 5, 33);
             for (int[] d : due) {
                 Due.fill(x, 0, 0, d[0]);
@@ -257,7 +235,7 @@ public final class ToldEdgesTest {
 
     /** 40: "TURN by TURN", 0 to 40, "from where it is now, others where they are now", "a as it is". */
     private static void kindsByTurns() {
-        TwoWhistlesAndFiveEwes x = large(60, 0);
+        TwoWhistlesAndFiveEwes x = Starts.large(60, 0);
         x.ewe(0, 5, 33);
         x.row(0, 0, 40);
         x.row(1, 3, 40);
@@ -290,9 +268,24 @@ public final class ToldEdgesTest {
         DUE.is("40: nothing went", x.eweOf(0, 2) * 100 + x.eweOf(1, 2), 3330);
     }
 
+    /** 40 with 2: taken for another KIND, a LEADER keeps to "the first other EWE of KIND LEADER", never to itself. */
+    private static void kindsOfALeader() {
+        TwoWhistlesAndFiveEwes x = Starts.large(60, 0);
+        x.ewe(5, 9, 33);
+        Due.fill(x, 0, 0, 63);
+        Due.fill(x, 1, 3, 34);
+        Due.fill(x, 2, 3, 23);
+        DUE.is("40: no other LEADER, to the first", x.kinds(0, 2, 1, 0), 1 + 2 + 4 + 16);
+        x.ewe(5, 0, 36);
+        DUE.is("40: to the other LEADER", x.kinds(0, 1, 1, 0), 1 + 2 + 4 + 16);
+        DUE.is("40: not to the first", x.kinds(0, 2, 1, 0), 0);
+        x.move(1, 60);
+        DUE.is("40: the other LEADER is IN", x.kinds(0, 2, 1, 0), 1 + 2 + 4 + 16);
+    }
+
     /** 40: a EWE that comes IN stays; "STUCK: it is IN". */
     private static void kindsOfOneComingIn() {
-        TwoWhistlesAndFiveEwes x = large(23, 0);
+        TwoWhistlesAndFiveEwes x = Starts.large(23, 0);
         x.ewe(4, 5, 33);
         Due.fill(x, 0, 0, 63, 22, 13);
         Due.fill(x, 1, 3, 23, 23, 23);
@@ -308,7 +301,7 @@ public final class ToldEdgesTest {
     /** 40: "STUCK: .. an element that is no CELL of the hill", of the first n alone; WALLS and THE PEN are CELLS. */
     private static void kindsByCells() {
         long[] no = {-1, 7, 9, 17, 67, 70, 77, 100, 127, -128, Long.MIN_VALUE, Long.MAX_VALUE, BEYOND_INT, BEYOND_INT + 33};
-        TwoWhistlesAndFiveEwes x = large(60, 0);
+        TwoWhistlesAndFiveEwes x = Starts.large(60, 0);
         x.ewe(0, 5, 33);
         x.wall(6, true);
         for (long n : no) {
@@ -344,6 +337,7 @@ public final class ToldEdgesTest {
         done();
         kindsByDistance();
         kindsByTurns();
+        kindsOfALeader();
         kindsOfOneComingIn();
         kindsByCells();
         DUE.end();

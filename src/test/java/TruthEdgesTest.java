@@ -2,17 +2,9 @@
 public final class TruthEdgesTest {
     private static final Due DUE = new Due("TruthEdgesTest");
 
-    private static TwoWhistlesAndFiveEwes large(int pen, int dog) {
-        TwoWhistlesAndFiveEwes x = new TwoWhistlesAndFiveEwes();
-        x.side(7);
-        x.pen(pen);
-        x.dog(dog);
-        return x;
-    }
-
     /** 44: "how many are IN"; "TURNS is 1 more"; what THE DOG did latest. */
     private static void turns() {
-        TwoWhistlesAndFiveEwes x = large(0, 33);
+        TwoWhistlesAndFiveEwes x = Starts.large(0, 33);
         DUE.is("44: 0 TURNS at first", x.status(5), 0);
         DUE.is("44: did 0 at first", x.status(8), 0);
         for (int e = 0; e <= 5; e++) {
@@ -43,7 +35,7 @@ public final class TruthEdgesTest {
         int[] ways = {0, -10, 10, -1, 1};
         for (int first : seeds) {
             for (int wind = 0; wind <= 12; wind++) {
-                TwoWhistlesAndFiveEwes x = large(0, 33);
+                TwoWhistlesAndFiveEwes x = Starts.large(0, 33);
                 x.wind(wind);
                 x.seed(first);
                 long seed = first & 0xFFFFFFFFL;
@@ -71,8 +63,8 @@ public final class TruthEdgesTest {
     private static void eveningsOfN() {
         int[] lengths = {1, 2, 59, 60};
         for (int n : lengths) {
-            TwoWhistlesAndFiveEwes x = large(0, 33);
-            TwoWhistlesAndFiveEwes y = large(0, 33);
+            TwoWhistlesAndFiveEwes x = Starts.large(0, 33);
+            TwoWhistlesAndFiveEwes y = Starts.large(0, 33);
             x.ewe(0, 0, 11);
             y.ewe(0, 0, 11);
             x.ewe(5, 9, 44);
@@ -86,14 +78,14 @@ public final class TruthEdgesTest {
             Twins.areAlike(DUE, "45: at once as one by one, " + n, x, y, Twins.NO_REFUSAL);
         }
         for (int n : new int[] {0, -1, 61, Integer.MAX_VALUE, Integer.MIN_VALUE}) {
-            DUE.is("45: evening(" + n + ")", large(0, 33).evening(n), -2);
+            DUE.is("45: evening(" + n + ")", Starts.large(0, 33).evening(n), -2);
         }
     }
 
     /** 45: "how many EWES come IN": not those that are IN; WIND 12: nothing is heard. */
     private static void comeIn() {
         for (int there = 0; there <= 4; there++) {
-            TwoWhistlesAndFiveEwes x = large(0, 14);
+            TwoWhistlesAndFiveEwes x = Starts.large(0, 14);
             for (int e = 0; e < there; e++) {
                 x.ewe(e, 0, 0);
             }
@@ -114,7 +106,7 @@ public final class TruthEdgesTest {
     private static void countsAsDone() {
         // from SEED 1 a COLUMN less is whistled twice; the second draws are 6 and 3
         for (int wind = 0; wind <= 6; wind++) {
-            TwoWhistlesAndFiveEwes x = large(0, 30);
+            TwoWhistlesAndFiveEwes x = Starts.large(0, 30);
             x.turn(1);
             x.wind(wind);
             x.evening(1);
@@ -123,7 +115,7 @@ public final class TruthEdgesTest {
             x.evening(1);
             DUE.is("45: heard or not, as it did, WIND " + wind, x.status(3), 20);
         }
-        TwoWhistlesAndFiveEwes x = large(0, 30);
+        TwoWhistlesAndFiveEwes x = Starts.large(0, 30);
         x.turn(1);
         x.wind(7);
         x.evening(1);
@@ -136,7 +128,7 @@ public final class TruthEdgesTest {
 
     /** 46: "SEED becomes v: the one ahead", whatever v is. */
     private static void seeds() {
-        TwoWhistlesAndFiveEwes x = large(0, 33);
+        TwoWhistlesAndFiveEwes x = Starts.large(0, 33);
         int ahead = 1;
         for (int v : new int[] {0, -1, Integer.MIN_VALUE, Integer.MAX_VALUE, 1, -2, -6}) {
             DUE.is("46: seed(" + v + ")", x.seed(v), ahead);

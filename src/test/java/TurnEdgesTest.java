@@ -7,14 +7,6 @@ public final class TurnEdgesTest {
     private static final int STUBBORN = 4;
     private static final int LEADER = 5;
 
-    private static TwoWhistlesAndFiveEwes large(int pen, int dog) {
-        TwoWhistlesAndFiveEwes x = new TwoWhistlesAndFiveEwes();
-        x.side(7);
-        x.pen(pen);
-        x.dog(dog);
-        return x;
-    }
-
     /** How many CELLS each KIND goes from THE DOG so many STEPS away, on open ground. */
     private static int goes(int kind, int a, int away) {
         switch (kind) {
@@ -32,7 +24,7 @@ public final class TurnEdgesTest {
         for (int kind = 0; kind <= 5; kind++) {
             for (int a = 0; a <= 9; a++) {
                 for (int away = 0; away <= 9; away++) {
-                    TwoWhistlesAndFiveEwes x = large(60, 0);
+                    TwoWhistlesAndFiveEwes x = Starts.large(60, 0);
                     int column = Math.min(away, 4);
                     x.ewe(kind, a, 10 * (away - column) + column);
                     String why = "2: KIND " + kind + ", a " + a + ", " + away + " STEPS away";
@@ -45,7 +37,7 @@ public final class TurnEdgesTest {
             }
         }
         for (int away = 10; away <= 12; away++) {
-            TwoWhistlesAndFiveEwes x = large(60, 0);
+            TwoWhistlesAndFiveEwes x = Starts.large(60, 0);
             x.ewe(LEADER, 9, 60 + away - 6);
             x.turn(0);
             DUE.is("2: a LEADER " + away + " STEPS away", x.eweOf(0, 4), away);
@@ -62,7 +54,7 @@ public final class TurnEdgesTest {
         int[][] due = {{53, 23, 32, 34}, {13, 43, 32, 34}, {31, 23, 43, 34}, {35, 23, 43, 32}, {42, 23, 34, 33}, {24, 43, 32, 33},
             {22, 43, 34, 33}, {44, 23, 32, 33}};
         for (int[] d : due) {
-            TwoWhistlesAndFiveEwes x = large(60, d[0]);
+            TwoWhistlesAndFiveEwes x = Starts.large(60, d[0]);
             x.ewe(0, 0, 33);
             for (int i = 1; i <= 3; i++) {
                 comesTo("THE DOG at " + d[0] + ", " + (i - 1) + " WALLS", x, 0, d[i]);
@@ -72,7 +64,7 @@ public final class TurnEdgesTest {
             comesTo("THE DOG at " + d[0] + ", none", x, 0, 33);
             DUE.is("34: held", x.held(), 1);
         }
-        TwoWhistlesAndFiveEwes x = large(60, 33);
+        TwoWhistlesAndFiveEwes x = Starts.large(60, 33);
         x.ewe(0, 0, 33);
         int[] order = {23, 43, 32, 34, 33};
         for (int to : order) {
@@ -87,7 +79,7 @@ public final class TurnEdgesTest {
         int[][] due = {{3, 13, 2}, {63, 53, 62}, {30, 31, 20}, {36, 35, 26}, {0, 11, 0}, {6, 15, 6}, {60, 51, 60}, {66, 55, 66},
             {0, 1, 10}, {66, 56, 65}, {6, 5, 16}, {60, 50, 61}};
         for (int[] d : due) {
-            TwoWhistlesAndFiveEwes x = large(33, d[1]);
+            TwoWhistlesAndFiveEwes x = Starts.large(33, d[1]);
             x.ewe(0, 0, d[0]);
             comesTo("at the border, " + d[0] + " from " + d[1], x, 0, d[2]);
         }
@@ -101,14 +93,14 @@ public final class TurnEdgesTest {
 
     /** MOOR and WILD: each time anew, until none is farther. */
     private static void laterTimes() {
-        TwoWhistlesAndFiveEwes x = large(60, 53);
+        TwoWhistlesAndFiveEwes x = Starts.large(60, 53);
         x.ewe(WILD, 0, 33);
         x.ewe(MOOR, 0, 33);
         x.wall(13, true);
         x.turn(0);
         DUE.is("2: a WILD one goes round", x.eweOf(0, 2), 12);
         DUE.is("2: a MOOR one goes round", x.eweOf(1, 2), 22);
-        x = large(60, 53);
+        x = Starts.large(60, 53);
         x.ewe(WILD, 0, 33);
         x.ewe(MOOR, 0, 33);
         x.wall(13, true);
@@ -124,7 +116,7 @@ public final class TurnEdgesTest {
         int[][] due = {{0, 23, 23}, {MOOR, 23, 23}, {MOOR, 13, 13}, {MOOR, 3, 13}, {WILD, 23, 23}, {WILD, 13, 13}, {WILD, 3, 3},
             {OLD, 23, 23}, {LEADER, 23, 23}};
         for (int[] d : due) {
-            TwoWhistlesAndFiveEwes x = large(d[1], 53);
+            TwoWhistlesAndFiveEwes x = Starts.large(d[1], 53);
             x.ewe(d[0], 9, 33);
             String why = "2: KIND " + d[0] + ", THE PEN at " + d[1];
             DUE.is(why + ", how many are IN", x.turn(0), d[1] == d[2] ? 1 : 0);
@@ -135,7 +127,7 @@ public final class TurnEdgesTest {
     /** "A EWE in THE PEN's CELL is IN (and stays there)", however near THE DOG is. */
     private static void staysIn() {
         for (int kind = 0; kind <= 5; kind++) {
-            TwoWhistlesAndFiveEwes x = large(33, 53);
+            TwoWhistlesAndFiveEwes x = Starts.large(33, 53);
             x.ewe(kind, 9, 33);
             for (int dog : new int[] {53, 43, 34, 32, 23, 30, 63}) {
                 x.dog(dog);
@@ -151,17 +143,17 @@ public final class TurnEdgesTest {
         int[][] due = {{30, 32}, {36, 34}, {3, 23}, {66, 34}, {60, 32}, {0, 23}, {6, 23}, {33, 23}, {43, 23}, {63, 23}, {10, 23}, {20, 23},
             {26, 23}, {16, 23}, {1, 23}, {5, 23}, {40, 32}, {46, 34}};
         for (int[] d : due) {
-            TwoWhistlesAndFiveEwes x = large(45, 53);
+            TwoWhistlesAndFiveEwes x = Starts.large(45, 53);
             x.ewe(0, 0, 33);
             x.ewe(LEADER, 0, d[0]);
             comesTo("the LEADER at " + d[0], x, 0, d[1]);
             if (d[0] != 33) {
-                x = large(d[0], 53);
+                x = Starts.large(d[0], 53);
                 x.ewe(LEADER, 9, 33);
                 comesTo("a LEADER, THE PEN at " + d[0], x, 0, d[1]);
             }
         }
-        TwoWhistlesAndFiveEwes x = large(63, 53);
+        TwoWhistlesAndFiveEwes x = Starts.large(63, 53);
         x.wall(23, true);
         x.ewe(LEADER, 9, 33);
         comesTo("a LEADER, of several the first, a WALL being in the first", x, 0, 32);
@@ -171,16 +163,16 @@ public final class TurnEdgesTest {
     private static void allKeepToTheLeader() {
         int[] to = {32, 31, 32, 30, 33};
         for (int kind = 0; kind < LEADER; kind++) {
-            TwoWhistlesAndFiveEwes x = large(66, 53);
+            TwoWhistlesAndFiveEwes x = Starts.large(66, 53);
             x.ewe(kind, 0, 33);
             x.ewe(LEADER, 0, 30);
             comesTo("KIND " + kind + " keeps to the LEADER", x, 0, to[kind]);
         }
-        TwoWhistlesAndFiveEwes x = large(66, 63);
+        TwoWhistlesAndFiveEwes x = Starts.large(66, 63);
         x.ewe(STUBBORN, 0, 33);
         x.ewe(LEADER, 0, 30);
         comesTo("a STUBBORN one keeps to the LEADER", x, 0, 32);
-        x = large(6, 53);
+        x = Starts.large(6, 53);
         x.ewe(LEADER, 9, 33);
         x.ewe(LEADER, 0, 30);
         comesTo("a LEADER keeps to none", x, 0, 23);
@@ -188,7 +180,7 @@ public final class TurnEdgesTest {
 
     /** "(the first other EWE of KIND LEADER that isn't IN)". */
     private static void theFirstLeader() {
-        TwoWhistlesAndFiveEwes x = large(66, 53);
+        TwoWhistlesAndFiveEwes x = Starts.large(66, 53);
         x.ewe(LEADER, 0, 36);
         x.ewe(0, 0, 33);
         x.ewe(LEADER, 0, 30);
@@ -202,7 +194,7 @@ public final class TurnEdgesTest {
         x.move(1, 33);
         x.move(2, 36);
         comesTo("the second again", x, 1, 34);
-        x = large(66, 53);
+        x = Starts.large(66, 53);
         x.ewe(0, 0, 33);
         x.ewe(0, 0, 30);
         x.ewe(MOOR, 0, 30);
@@ -212,7 +204,7 @@ public final class TurnEdgesTest {
 
     /** "Then, by numbers, each EWE": a LEADER that comes IN leads those behind it no more. */
     private static void byNumbers() {
-        TwoWhistlesAndFiveEwes x = large(20, 33);
+        TwoWhistlesAndFiveEwes x = Starts.large(20, 33);
         x.ewe(0, 0, 23);
         x.ewe(LEADER, 9, 21);
         x.ewe(0, 0, 23);
@@ -224,7 +216,7 @@ public final class TurnEdgesTest {
 
     /** "THE DOG goes so .. Then .. each EWE": from where THE DOG is then. */
     private static void dogFirst() {
-        TwoWhistlesAndFiveEwes x = large(60, 36);
+        TwoWhistlesAndFiveEwes x = Starts.large(60, 36);
         x.ewe(0, 0, 32);
         DUE.is("2: 4 STEPS away", x.eweOf(0, 4), 4);
         x.turn(0);
@@ -242,7 +234,7 @@ public final class TurnEdgesTest {
         int[][] due = {{0, 1, 0, 1, 0, 1}, {3, 1, 0, 1, 1, 1}, {6, 1, 0, 1, 1, 0}, {30, 1, 1, 1, 0, 1}, {36, 1, 1, 1, 0, 0},
             {60, 1, 1, 0, 0, 1}, {63, 1, 1, 0, 1, 1}, {66, 1, 1, 0, 1, 0}, {23, 1, 1, 0, 1, 1}, {43, 1, 0, 1, 1, 1}, {32, 1, 1, 1, 1, 0},
             {34, 1, 1, 1, 0, 0}, {25, 1, 1, 0, 1, 1}, {45, 1, 0, 1, 1, 1}, {44, 1, 1, 1, 1, 1}, {55, 1, 1, 1, 1, 1}};
-        TwoWhistlesAndFiveEwes x = large(33, 50);
+        TwoWhistlesAndFiveEwes x = Starts.large(33, 50);
         x.wall(35, true);
         for (int[] d : due) {
             for (int command = 0; command < 5; command++) {
