@@ -79,6 +79,9 @@ public final class LookEdgesTest {
         x.wall(5, true);
         x.wall(50, true);
         DUE.is("26: SIDE 6 has no bits 6 and 13", x.bare(), 30 + 30 * 128);
+        x.ewe(0, 0, 33);
+        x.ewe(0, 0, 33);
+        DUE.is("26: two EWES in one CELL", x.bare(), 22 + 22 * 128);
     }
 
     /** 28: "APART: the most STEPS between two EWES that aren't IN (0: fewer than two)". */
@@ -138,6 +141,8 @@ public final class LookEdgesTest {
         DUE.is("28: of several the first", x.ewes(2), 2);
         x.ewe(0, 0, 34);
         DUE.is("28: 0 STEPS", x.ewes(2), 4);
+        x.move(0, 34);
+        DUE.is("28: EWE 0 as near", x.ewes(2), 0);
         DUE.is("28: NONE isn't refused", x.status(12), 0);
     }
 

@@ -152,6 +152,8 @@ public final class SearchEdgesTest {
             DUE.is("29: shut in at 6, path(" + cell + ")", x.path(cell), -1);
         }
         DUE.is("29: shut in, its own", x.path(6), 0);
+        DUE.is("29: to CELL 0", Starts.large(66, 33).path(0), 6);
+        DUE.is("29: to the last CELL", Starts.large(0, 33).path(66), 6);
         DUE.is("30: shut in", x.reach(99), 1);
         x = Starts.large(2, 0);
         x.wall(12, true);

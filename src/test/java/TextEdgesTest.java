@@ -159,6 +159,13 @@ public final class TextEdgesTest {
         due("NUMBERS without blanks between", "ewe 091", -24);
         due("WORDS without a blank between", "gapgap 1", -20);
         due("a longer WORD", "gaps 1", -20);
+        for (String statement : new String[] {"side 7", "wall 1", "gap 1", "pen 1", "dog 1", "ewe 0 0 1", "wind 1"}) {
+            due("a WORD", statement, 1);
+            for (int i = 0; i < statement.indexOf(' '); i++) {
+                due("another letter", statement.substring(0, i) + "x" + statement.substring(i + 1), -20);
+                due("a letter twice", statement.substring(0, i) + statement.substring(i, i + 1) + statement.substring(i), -20);
+            }
+        }
         due("a shorter WORD", "ga 1", -20);
         due("no SIGN between", "gap 1 gap 2", -26);
         due("two SIGNS", "gap 1;;gap 2", -26);

@@ -180,12 +180,39 @@ public final class ToldEdgesTest {
             // from CELL 3 on a COLUMN farther each TURN, until it is IN: then all others are in one CELL
             DUE.is("42: APART behind " + n, x.behind(0, n, 2), n >= 3 ? 0 : 9 + n);
         }
+        for (int e = 1; e < 5; e++) {
+            x.move(e, 10);
+        }
+        for (int n = 0; n <= 3; n++) {
+            DUE.is("42: APART less and less, behind " + n, x.behind(0, n, 2), n >= 3 ? 0 : 4 - n);
+        }
         DUE.is("42: forty", x.behind(0, 40, 1), 16);
         DUE.is("42: THE DOG behind none", x.behind(1, 0, 1), 16);
         DUE.is("42: THE DOG behind one", x.behind(1, 1, 1), 26);
         DUE.is("42: THE DOG behind two", x.behind(1, 2, 1), 25);
         DUE.is("42: THE DOG behind three", x.behind(1, 3, 1), 15);
         DUE.is("42: fewer elements", x.behind(1, 4, 1), -2);
+    }
+
+    /** 42: TURNS behind one another: THE LEADER is where it has come to then. */
+    private static void behindTheLeader() {
+        TwoWhistlesAndFiveEwes x = Starts.large(20, 33);
+        x.ewe(0, 0, 23);
+        x.ewe(5, 9, 21);
+        x.ewe(0, 0, 23);
+        x.row(0, 0, 40);
+        DUE.is("42: the LEADER comes IN", x.behind(0, 1, 11), 20);
+        DUE.is("42: the one ahead of it kept to it", x.behind(0, 1, 10), 22);
+        DUE.is("42: the one behind it has none to keep to", x.behind(0, 1, 12), 13);
+        x = Starts.large(5, 42);
+        x.ewe(5, 9, 45);
+        x.ewe(0, 0, 44);
+        x.row(0, 0, 1);
+        DUE.is("42: the LEADER goes a ROW less", x.behind(0, 1, 10), 35);
+        DUE.is("42: 34 and 45 are as near to 35, where it is then", x.behind(0, 1, 11), 34);
+        Due.fill(x, 1, 0, 42);
+        Due.fill(x, 2, 0, 45);
+        DUE.is("40: 45 is nearest to where it is now", x.kinds(1, 2, 1, 1), 1 + 4);
     }
 
     /** 43: "They are done in truth: how many are IN", n 0 to 40. */
@@ -334,6 +361,7 @@ public final class ToldEdgesTest {
         oddsOfWhatItDid();
         wrong();
         behind();
+        behindTheLeader();
         done();
         kindsByDistance();
         kindsByTurns();

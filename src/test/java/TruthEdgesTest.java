@@ -220,6 +220,22 @@ public final class TruthEdgesTest {
 
     /** 48: "(SHELVES with EWES hold those of the same numbers, or NOTHING)". */
     private static void shelvesBehindBack() {
+        for (int were = 0; were < 5; were++) {
+            TwoWhistlesAndFiveEwes x = new TwoWhistlesAndFiveEwes();
+            for (int e = 0; e < 5; e++) {
+                if (e == were) {
+                    x.image();
+                }
+                x.ewe(0, 0, 1);
+            }
+            for (int s = 0; s < 8; s++) {
+                x.show(s, 4);
+            }
+            x.back();
+            for (int s = 0; s < 8; s++) {
+                DUE.is("48: EWE 4 of " + were + " in SHELF " + s, x.holds(s), -1);
+            }
+        }
         for (int were = 0; were <= 5; were++) {
             TwoWhistlesAndFiveEwes x = new TwoWhistlesAndFiveEwes();
             for (int e = 0; e < 5; e++) {
